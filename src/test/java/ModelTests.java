@@ -1,0 +1,241 @@
+import java.util.ArrayList;
+import java.util.Arrays;
+import java.util.List;
+import java.util.Random;
+
+/**
+ * Random runs of 512 calls, compared with the model of the document, and with what a plain map was at each
+ * number. The seeds are written down, so that each run is the same each time.
+ */
+public final class ModelTests {
+    private static final int CALLS = 512;
+    private static final String[] OPS = {"put", "mark", "add", "clear", "get", "next", "snapshot", "release", "pins",
+        "begin", "read", "write", "commit", "flush", "compact", "whole", "row", "take", "sync", "crash", "cut"};
+    /** How often each call is made, in each kind of run. */
+    private static final int[][] WEIGHTS = {
+        {30, 8, 16, 6, 8, 4, 3, 2, 2, 2, 6, 6, 2, 8, 8, 1, 6, 2, 2, 1, 1},
+        {60, 10, 30, 8, 4, 2, 2, 1, 1, 1, 2, 2, 1, 14, 12, 1, 2, 1, 1, 0, 0},
+        {20, 10, 20, 14, 8, 4, 8, 3, 6, 6, 6, 6, 3, 12, 10, 3, 4, 2, 1, 0, 0},
+        {10, 4, 6, 4, 8, 2, 2, 1, 1, 8, 20, 20, 8, 6, 6, 1, 4, 1, 1, 1, 1},
+        {10, 4, 6, 3, 4, 2, 1, 1, 1, 1, 2, 2, 1, 4, 8, 1, 30, 8, 1, 1, 1},
+        {40, 6, 10, 4, 2, 1, 1, 1, 0, 1, 2, 2, 1, 6, 5, 0, 3, 1, 4, 5, 4},
+        {34, 10, 40, 30, 4, 2, 6, 1, 2, 2, 2, 2, 1, 16, 20, 1, 1, 1, 1, 0, 0},
+    };
+
+    private final Random random;
+    private final int seed;
+    private final int[] weights;
+    private final int keys;
+    private final Stratalog x = new Stratalog();
+    private final Model model = new Model();
+    /** By numbers: what a plain map was then; slots are keys of family 0, then of family 1. */
+    private final List<int[]> maps = new ArrayList<>();
+    private String call = "";
+
+    private ModelTests(int seed) {
+        this.seed = seed;
+        random = new Random(seed);
+        weights = WEIGHTS[seed % WEIGHTS.length];
+        keys = new int[] {64, 12, 24, 5, 40}[random.nextInt(5)];
+        int[] empty = new int[128];
+        Arrays.fill(empty, Model.NO_VALUE);
+        maps.add(empty);
+    }
+
+    public static void main(String[] args) {
+        int runs = args.length > 0 ? Integer.parseInt(args[0]) : 2100;
+        for (int seed = 0; seed < runs; seed++) {
+            new ModelTests(seed).go();
+        }
+        System.out.println("ModelTests: " + runs + " runs");
+        Check.end();
+    }
+
+    private void go() {
+        for (int i = 0; i < CALLS; i++) {
+            step();
+            if (i % 16 == 15) {
+                compareAll();
+            }
+            if (Check.failures() > 0) {
+                return;
+            }
+        }
+    }
+
+    private interface Call {
+        int answer();
+    }
+
+    private static int answerOf(Call call) {
+        try {
+            return call.answer();
+        } catch (IllegalArgumentException e) {
+            return Model.ARGUMENT;
+        } catch (IllegalStateException e) {
+            return Model.STATE;
+        } catch (IndexOutOfBoundsException e) {
+            return Model.INDEX;
+        }
+    }
+
+    private void same(String what, Call got, int want) {
+        call = what;
+        Check.due("seed " + seed + ": " + call, answerOf(got), want);
+    }
+
+    private int key() {
+        return random.nextInt(keys);
+    }
+
+    private int value() {
+        return random.nextInt(19999) - 9999;
+    }
+
+    private int some(int ever) {
+        return ever == 0 || random.nextInt(12) == 0 ? random.nextInt(32) - 1 : ever - 1 - random.nextInt(Math.min(ever, 6));
+    }
+
+    private String pick() {
+        int sum = 0;
+        for (int w : weights) {
+            sum += w;
+        }
+        int at = random.nextInt(sum);
+        int op = 0;
+        while (at >= weights[op]) {
+            at -= weights[op];
+            op++;
+        }
+        return OPS[op];
+    }
+
+    private void step() {
+        int f = random.nextInt(8) < 6 ? 0 : 1;
+        int k = key();
+        int v = value();
+        String op = pick();
+        switch (op) {
+            case "put" -> same("put", () -> x.put(f, k, v), model.write(f, Model.Kind.PUT, k, k, v));
+            case "mark" -> same("mark", () -> x.mark(f, k), model.write(f, Model.Kind.MARK, k, k, 0));
+            case "add" -> same("add", () -> x.add(f, k, v), model.write(f, Model.Kind.ADD, k, k, v));
+            case "clear" -> {
+                int to = Math.min(63, k + random.nextInt(random.nextInt(4) == 0 ? 40 : 5));
+                same("clear", () -> x.clear(f, k, to), model.write(f, Model.Kind.CLEAR, k, to, 0));
+            }
+            case "get" -> {
+                int s = random.nextBoolean() ? -1 : some(model.snapshots.size());
+                same("get", () -> x.get(f, k, s), model.get(f, k, s));
+            }
+            case "next" -> {
+                int s = random.nextBoolean() ? -1 : some(model.snapshots.size());
+                boolean isForward = random.nextBoolean();
+                same("next", () -> x.next(f, k, isForward, s), model.next(f, k, isForward, s));
+            }
+            case "snapshot" -> same("snapshot", x::snapshot, model.open(model.snapshots));
+            case "release" -> {
+                int s = some(model.snapshots.size());
+                same("release", () -> { x.release(s); return 0; }, model.release(s));
+            }
+            case "pins" -> {
+                int s = some(model.snapshots.size());
+                same("pins", () -> x.pins(s), model.pins(s));
+            }
+            default -> otherStep(op, f, k, v);
+        }
+        noteMaps();
+    }
+
+    private void otherStep(String op, int f, int k, int v) {
+        int t = some(model.transactions.size());
+        int put = random.nextInt(4) == 0 ? Model.NO_VALUE : v;
+        boolean is = random.nextBoolean();
+        int left = random.nextInt(random.nextBoolean() ? 4 : 101);
+        switch (op) {
+            case "begin" -> same("begin", x::begin, model.open(model.transactions));
+            case "read" -> same("read", () -> x.read(t, f, k), model.read(t, f, k));
+            case "write" -> same("write", () -> x.write(t, f, k, put), model.letWait(t, f, k, put));
+            case "commit" -> same("commit", () -> x.commit(t), model.commit(t));
+            case "flush" -> same("flush", () -> x.flush(f), model.flush(f));
+            case "compact" -> same("compact", () -> x.compact(f), model.compact(f));
+            case "whole" -> same("whole", () -> x.whole(f), model.whole(f));
+            case "row" -> {
+                int last = model.draft.isEmpty() ? 0 : model.draft.lastKey();
+                int row = random.nextInt(10) == 0 ? k : Math.min(63, last + random.nextInt(6));
+                same("row", () -> x.row(row, v), model.row(row, v));
+            }
+            case "take" -> same("take", () -> x.take(f), model.take(f));
+            case "sync" -> same("sync", x::sync, model.sync());
+            case "crash" -> same("crash", () -> x.crash(left), model.crash(left));
+            default -> same("cut", () -> x.cut(f, is), model.cut(is));
+        }
+    }
+
+    /** Carries the plain map on by what the model wrote last: it was written in order, number by number. */
+    private void noteMaps() {
+        while (maps.size() > model.number + 1) {
+            maps.remove(maps.size() - 1);
+        }
+        for (int number = maps.size(); number <= model.number; number++) {
+            int[] map = maps.get(number - 1).clone();
+            for (int family = 0; family < 2; family++) {
+                for (Model.Item item : model.everWritten.get(family)) {
+                    if (item.number() == number) {
+                        apply(map, family, item);
+                    }
+                }
+            }
+            maps.add(map);
+        }
+    }
+
+    private static void apply(int[] map, int family, Model.Item item) {
+        for (int key = item.from(); key <= item.to(); key++) {
+            int slot = family * 64 + key;
+            map[slot] = switch (item.kind()) {
+                case PUT -> item.value();
+                case ADD -> (map[slot] == Model.NO_VALUE ? 0 : map[slot]) + item.value();
+                default -> Model.NO_VALUE;
+            };
+        }
+    }
+
+    private void compareAll() {
+        same("number", x::number, model.number);
+        same("unsure", x::unsure, model.unsure.size());
+        same("looked", x::looked, model.looked);
+        for (int f = 0; f < 2; f++) {
+            int family = f;
+            same("table", () -> x.table(family), model.table(f));
+            same("pressure", () -> x.pressure(family), model.pressure(f));
+            for (int l = 0; l < 4; l++) {
+                int level = l;
+                for (int w = 0; w < 4; w++) {
+                    int what = w;
+                    same("level", () -> x.level(family, level, what), model.level(f, l, w));
+                    for (int p = -1; p <= model.levels.get(f).get(l).size(); p++) {
+                        int place = p;
+                        same("run", () -> x.run(family, level, place, what), model.run(f, l, p, w));
+                    }
+                }
+            }
+            compareReads(f, -1, model.number);
+            for (int s = 0; s < model.snapshots.size(); s++) {
+                if (!model.snapshots.get(s).isOver) {
+                    compareReads(f, s, model.snapshots.get(s).number);
+                }
+            }
+        }
+    }
+
+    /** Reads all keys; as the aim is, each is what a plain map had then. */
+    private void compareReads(int f, int s, int number) {
+        int[] map = maps.get(number);
+        for (int k = 0; k < 64; k++) {
+            int key = k;
+            same("get of " + key + " by " + number, () -> x.get(f, key, s), map[f * 64 + k]);
+            model.get(f, key, s);
+            same("looked", x::looked, model.looked);
+        }
+    }
+}
