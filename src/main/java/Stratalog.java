@@ -33,8 +33,8 @@ public final class Stratalog {
     /** What an item is; GONE is one that the next removeGone() takes away. */
     private static final int PUT = 0, MARK = 1, ADD = 2, CLEAR = 3, GONE = 4;
 
-    private final Family left;
-    private final Family right;
+    private final Family familyZero;
+    private final Family familyOne;
     private final Log log;
     private final Snapshots snapshots;
     private final ArrayList<Transaction> transactions;
@@ -47,8 +47,8 @@ public final class Stratalog {
 
     /** Makes empty families; the number is 0. */
     public Stratalog() {
-        left = new Family();
-        right = new Family();
+        familyZero = new Family();
+        familyOne = new Family();
         log = new Log();
         snapshots = new Snapshots();
         transactions = new ArrayList<Transaction>();
@@ -246,11 +246,11 @@ public final class Stratalog {
         Family taking = familyOf(family);
         int first = draft.firstOf(0);
         int last = draft.firstOf(draft.size() - 1);
+        log.settle();
         if (taking.tableRun().hasItemIn(first, last)) {
             flushTable(taking);
         }
         latest++;
-        log.settle();
         log.settleAt(latest);
         taking.noteRowsWritten(draft, latest);
         int depth = taking.deepestFree(first, last);
@@ -380,7 +380,7 @@ public final class Stratalog {
     }
 
     private Family familyOf(int family) {
-        return family == 0 ? left : right;
+        return family == 0 ? familyZero : familyOne;
     }
 
     private int writeEntry(Family family, int key, int kind, int value) {
@@ -476,9 +476,8 @@ public final class Stratalog {
         log.append(latest);
     }
 
-    /** Makes a run of a table that holds something; returns how many entries it has. */
+    /** Makes a run of a table that holds something, the log being synced; returns how many entries it has. */
     private int flushTable(Family family) {
-        log.settle();
         Run run = family.swapTable(merger.freshRun());
         run.fitSpan();
         family.levelAt(0).place(run);
@@ -514,8 +513,8 @@ public final class Stratalog {
 
     private int crashLeaving(int records) {
         latest = log.cutTo(records);
-        left.forgetAbove(latest);
-        right.forgetAbove(latest);
+        familyZero.forgetAbove(latest);
+        familyOne.forgetAbove(latest);
         snapshots.endAll();
         for (int i = 0; i < transactions.size(); i++) {
             transactions.get(i).isOver = true;

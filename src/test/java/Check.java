@@ -41,6 +41,10 @@ final class Check {
             made.make();
         } catch (RuntimeException e) {
             got = e.getClass().getSimpleName();
+            // The library throws some of these by itself; it never may.
+            if (!e.getStackTrace()[0].getClassName().startsWith("Stratalog")) {
+                got += " by " + e.getStackTrace()[0];
+            }
         }
         if (!got.equals(want)) {
             failures++;

@@ -75,7 +75,9 @@ public final class ModelTests {
         } catch (IllegalStateException e) {
             return Model.STATE;
         } catch (IndexOutOfBoundsException e) {
-            return Model.INDEX;
+            boolean isOwn = e.getClass() == IndexOutOfBoundsException.class
+                    && e.getStackTrace()[0].getClassName().startsWith("Stratalog");
+            return isOwn ? Model.INDEX : Integer.MIN_VALUE;
         }
     }
 
@@ -93,7 +95,10 @@ public final class ModelTests {
     }
 
     private int some(int ever) {
-        return ever == 0 || random.nextInt(12) == 0 ? random.nextInt(32) - 1 : ever - 1 - random.nextInt(Math.min(ever, 6));
+        if (ever == 0 || random.nextInt(12) == 0) {
+            return random.nextInt(32) - 1;
+        }
+        return ever - 1 - random.nextInt(Math.min(ever, 6));
     }
 
     private String pick() {
