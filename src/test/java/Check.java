@@ -2,6 +2,8 @@
 final class Check {
     private static int checks = 0;
     private static int failures = 0;
+    /** Which case the checks that follow belong to. */
+    private static String about = "";
 
     private Check() {
     }
@@ -10,11 +12,23 @@ final class Check {
         void make();
     }
 
+    static void about(String what) {
+        about = what + ": ";
+    }
+
     static void due(String call, long got, long want) {
         checks++;
         if (got != want) {
             failures++;
-            System.out.println(call + " answered " + got + ", due is " + want);
+            System.out.println(about + call + " answered " + got + ", due is " + want);
+        }
+    }
+
+    static void dueText(String call, String got, String want) {
+        checks++;
+        if (!got.equals(want)) {
+            failures++;
+            System.out.println(about + call + " answered " + got + ", due is " + want);
         }
     }
 
@@ -23,33 +37,28 @@ final class Check {
     }
 
     static void throwsArgument(String call, Call made) {
-        throwsNamed(call, made, "IllegalArgumentException");
+        dueText(call, thrownBy(made), "IllegalArgumentException");
     }
 
     static void throwsState(String call, Call made) {
-        throwsNamed(call, made, "IllegalStateException");
+        dueText(call, thrownBy(made), "IllegalStateException");
     }
 
     static void throwsIndex(String call, Call made) {
-        throwsNamed(call, made, "IndexOutOfBoundsException");
+        dueText(call, thrownBy(made), "IndexOutOfBoundsException");
     }
 
-    private static void throwsNamed(String call, Call made, String want) {
-        checks++;
-        String got = "nothing";
+    /** The name of what a call throws. */
+    static String thrownBy(Call made) {
         try {
             made.make();
         } catch (RuntimeException e) {
-            got = e.getClass().getSimpleName();
+            String name = e.getClass().getSimpleName();
             // The library throws some of these by itself; it never may.
-            if (!e.getStackTrace()[0].getClassName().startsWith("Stratalog")) {
-                got += " by " + e.getStackTrace()[0];
-            }
+            boolean isOwn = e.getStackTrace()[0].getClassName().startsWith("Stratalog");
+            return isOwn ? name : name + " by " + e.getStackTrace()[0];
         }
-        if (!got.equals(want)) {
-            failures++;
-            System.out.println(call + " throws " + got + ", due is " + want);
-        }
+        return "nothing";
     }
 
     static int failures() {

@@ -1,11 +1,5 @@
 /** For each promise of the document: ordinary inputs, edges, wrong inputs; the answers are worked out by hand. */
-public final class PromiseTests {
-    private static final int NONE = Stratalog.NONE;
-    private static final int NO_VALUE = Stratalog.NO_VALUE;
-    private static final int[] NO_FAMILIES = {-1, 2, Integer.MIN_VALUE, Integer.MAX_VALUE};
-    private static final int[] NO_KEYS = {-1, 64, Integer.MIN_VALUE, Integer.MAX_VALUE};
-    private static final int[] NO_VALUES = {-10000, 10000, Integer.MIN_VALUE, Integer.MAX_VALUE};
-
+public final class PromiseTests extends TestBase {
     private PromiseTests() {
     }
 
@@ -55,58 +49,6 @@ public final class PromiseTests {
         cut();
         System.out.println("PromiseTests");
         Check.end();
-    }
-
-    // ---- helpers
-
-    private static void due(String call, long got, long want) {
-        Check.due(call, got, want);
-    }
-
-    private static void putMany(Stratalog x, int family, int count) {
-        for (int i = 0; i < count; i++) {
-            x.put(family, i % 64, i);
-        }
-    }
-
-    /** A flushed run with a PUT of 1 at each key of a range. */
-    private static void runOf(Stratalog x, int family, int from, int to) {
-        for (int key = from; key <= to; key++) {
-            x.put(family, key, 1);
-        }
-        x.flush(family);
-    }
-
-    /** Rows of a range, taken in. */
-    private static int takeOf(Stratalog x, int family, int from, int to, int value) {
-        for (int key = from; key <= to; key++) {
-            x.row(key, value);
-        }
-        return x.take(family);
-    }
-
-    private static void oneRun(Stratalog x, int family, int key) {
-        runOf(x, family, key, key);
-    }
-
-    private static Stratalog stalled() {
-        Stratalog x = new Stratalog();
-        putMany(x, 0, 40);
-        return x;
-    }
-
-    /** The entries, the span and the greatest number of a run, in one due each. */
-    private static void dueRun(Stratalog x, int family, int level, int place, int[] want) {
-        for (int what = 0; what < 4; what++) {
-            String call = "run(" + family + ", " + level + ", " + place + ", " + what + ")";
-            due(call, x.run(family, level, place, what), want[what]);
-        }
-    }
-
-    private static void dueLevel(Stratalog x, int family, int level, int[] want) {
-        for (int what = 0; what < 4; what++) {
-            due("level(" + family + ", " + level + ", " + what + ")", x.level(family, level, what), want[what]);
-        }
     }
 
     // ---- promise 1

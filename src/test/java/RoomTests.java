@@ -3,10 +3,10 @@ import java.util.function.IntConsumer;
 
 /**
  * All calls of one run live in one room: 600,000 objects and arrays, 7.3 million fields and elements. Of ints
- * that is some 29 million bytes; the dearest runs found stay far below.
+ * that is some 29 million bytes; what the dearest runs allocate is told, and may not be more.
  */
 public final class RoomTests {
-    private static final long MOST_BYTES = 8_000_000;
+    private static final long MOST_BYTES = 29_000_000;
 
     private RoomTests() {
     }
@@ -105,14 +105,12 @@ public final class RoomTests {
         }
         x.take(0);
         x.snapshot();
-        for (int i = 0; i < 180; i++) {
-            if (x.pressure(0) == 2) {
+        for (int i = 1; i <= 180; i++) {
+            x.clear(0, 0, 63);
+            if (i % 36 == 0) {
                 x.flush(0);
                 x.whole(0);
             }
-            x.clear(0, 0, 63);
         }
-        x.flush(0);
-        x.whole(0);
     }
 }
