@@ -11,6 +11,7 @@ public final class MergeTests extends TestBase {
         clearsUponClears();
         foldsUponWhatIsBelow();
         foldsInEachStripe();
+        foldsWhatIsNotCleared();
         marksAtTheEndsOfSpansBelow();
         marksUponTheOtherFamily();
         marksUponLevels();
@@ -283,6 +284,38 @@ public final class MergeTests extends TestBase {
         x.release(1);
         due("whole without the second one", x.whole(0), 1);
         due("by the third one", x.get(0, 0, 2), 20);
+    }
+
+    private static void foldsWhatIsNotCleared() {
+        Check.about("what is cleared is dropped ahead of folding");
+        Stratalog x = new Stratalog();
+        x.put(0, 5, 100);
+        x.put(0, 6, 100);
+        x.add(0, 7, 100);
+        x.clear(0, 5, 7);
+        x.add(0, 5, 1);
+        x.mark(0, 6);
+        x.add(0, 6, 2);
+        x.add(0, 7, 3);
+        x.flush(0);
+        dueValues(x, 0, 5, NONE, 1, 2, 3);
+        due("whole", x.whole(0), 4);
+        dueLevel(x, 0, 3, new int[] {1, 3, 0, 0});
+        dueValues(x, 0, 5, NONE, 1, 2, 3);
+        Stratalog y = new Stratalog();
+        y.put(0, 5, 100);
+        y.snapshot();
+        y.add(0, 5, 10);
+        y.clear(0, 5, 5);
+        y.add(0, 5, 1);
+        y.flush(0);
+        due("whole in two stripes", y.whole(0), 1);
+        dueLevel(y, 0, 3, new int[] {1, 2, 1, 0});
+        due("now", y.get(0, 5, NONE), 1);
+        due("then", y.get(0, 5, 0), 100);
+        y.release(0);
+        due("whole in one stripe", y.whole(0), 1);
+        due("now", y.get(0, 5, NONE), 1);
     }
 
     // ---- the entry with the least number
