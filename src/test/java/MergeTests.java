@@ -7,6 +7,7 @@ public final class MergeTests extends TestBase {
         stripesOfEntries();
         stripesOfClears();
         stripesOfSeveral();
+        stripesOfSixty();
         clearsThatAreNotMerged();
         clearsUponClears();
         foldsUponWhatIsBelow();
@@ -29,6 +30,7 @@ public final class MergeTests extends TestBase {
         clearsInParts();
         partsAreApart();
         partsAtCuts();
+        manyParts();
         clearsWithoutEntries();
         wholeOfNothing();
         wholeLess();
@@ -156,6 +158,38 @@ public final class MergeTests extends TestBase {
         for (int s = 0; s < 30; s++) {
             due("by the snapshot " + s, y.get(0, 5, s), s);
         }
+    }
+
+    private static void stripesOfSixty() {
+        Check.about("30 snapshots and 30 transactions");
+        Stratalog x = new Stratalog();
+        for (int i = 0; i < 30; i++) {
+            x.put(0, 5, 2 * i);
+            due("snapshot", x.snapshot(), i);
+            x.put(0, 5, 2 * i + 1);
+            due("begin", x.begin(), i);
+            if (i == 15) {
+                x.flush(0);
+            }
+        }
+        x.put(0, 5, 60);
+        x.flush(0);
+        due("whole of 61 entries", x.whole(0), 0);
+        dueRuns(x, 0, 3, new int[][] {{5, 5, 61}});
+        for (int i = 0; i < 30; i++) {
+            due("by the snapshot " + i, x.get(0, 5, i), 2 * i);
+            due("by the transaction " + i, x.read(i, 0, 5), 2 * i + 1);
+        }
+        due("pins of the last one", x.pins(29), 1);
+        due("commit of the last one", x.commit(29), CONFLICT);
+        due("whole without the last transaction", x.whole(0), 1);
+        x.release(29);
+        due("whole without the last snapshot", x.whole(0), 1);
+        x.release(0);
+        due("commit of the first one", x.commit(0), CONFLICT);
+        due("whole without the first ones", x.whole(0), 2);
+        x.crash(0);
+        due("whole without any", x.whole(0), 56);
     }
 
     private static void clearsThatAreNotMerged() {
@@ -749,6 +783,27 @@ public final class MergeTests extends TestBase {
         dueRuns(x, 0, 1, new int[][] {{0, 19, 1}, {20, 40, 1}});
         due("its part has something below", x.level(0, 1, 2), 1);
         due("what is below stays cleared", x.get(0, 10, NONE), NO_VALUE);
+    }
+
+    private static void manyParts() {
+        Check.about("180 CLEARs in 8 runs");
+        Stratalog x = new Stratalog();
+        takeOf(x, 0, 0, 63, 1);
+        x.snapshot();
+        for (int i = 1; i <= 180; i++) {
+            x.clear(0, 0, 63);
+            if (i % 36 == 0) {
+                x.flush(0);
+                due("whole", x.whole(0), 0);
+                dueLevel(x, 0, 3, new int[] {8, 64, 8 * i, 0});
+            }
+        }
+        due("now", x.next(0, 0, true, NONE), NONE);
+        due("then", x.next(0, 63, false, 0), 63);
+        x.release(0);
+        due("whole", x.whole(0), 64);
+        dueLevel(x, 0, 3, new int[] {0, 0, 0, 0});
+        due("number", x.crash(0), 181);
     }
 
     private static void clearsWithoutEntries() {

@@ -23,6 +23,7 @@ public final class TakeTests extends TestBase {
         levelsAboveThatAreTaken();
         levelsUponWideSpans();
         placesAmongRuns();
+        manyRuns();
         takeUnderPressure();
         takeIsOneWrite();
         takeByViews();
@@ -384,6 +385,27 @@ public final class TakeTests extends TestBase {
         for (int place = 0; place < numbers.length; place++) {
             due("number of the place " + place, x.run(0, 3, place, 3), numbers[place]);
         }
+    }
+
+    private static void manyRuns() {
+        Check.about("many runs of the level 0");
+        Stratalog x = new Stratalog();
+        for (int i = 0; i < 60; i++) {
+            x.row(5, i);
+            due("take", x.take(0), Math.max(0, 3 - i));
+        }
+        dueLevel(x, 0, 0, new int[] {57, 57, 0, 1425});
+        for (int place = 0; place < 57; place++) {
+            due("number of the place " + place, x.run(0, 0, place, 3), 60 - place);
+        }
+        Check.throwsIndex("the place behind", () -> x.run(0, 0, 57, 3));
+        due("get", x.get(0, 5, NONE), 59);
+        due("looked", x.looked(), 60);
+        due("pressure", x.pressure(0), 2);
+        due("compact", x.compact(0), 0);
+        dueRun(x, 0, 1, 0, new int[] {5, 5, 1, 60});
+        due("whole", x.whole(0), 2);
+        due("get", x.get(0, 5, NONE), 59);
     }
 
     private static void takeUnderPressure() {

@@ -16,6 +16,7 @@ public final class ViewTests extends TestBase {
         conflictsByWrites();
         conflictsAtTheEndsOfClears();
         conflictsByRows();
+        conflictsBesideRows();
         conflictsByNumbers();
         conflictsWhateverHasBecome();
         conflictsOfReads();
@@ -28,6 +29,8 @@ public final class ViewTests extends TestBase {
         commitByPressure();
         commitByPressureOfRuns();
         commitReachesThePressure();
+        commitBesideThePressure();
+        commitOfMarks();
         System.out.println("ViewTests");
         Check.end();
     }
@@ -329,6 +332,32 @@ public final class ViewTests extends TestBase {
         dueCommit("a row upon what was flushed", CONFLICT, x -> { x.flush(0); takeKeys(x, 0, 5); });
     }
 
+    private static void conflictsBesideRows() {
+        Check.about("rows at other keys");
+        for (int family = 0; family < 2; family++) {
+            Stratalog x = new Stratalog();
+            takeKeys(x, family, 3, 5, 7, 9);
+            x.begin();
+            x.begin();
+            for (int key = 0; key < 64; key++) {
+                if (key != 4) {
+                    x.read(0, family, key);
+                }
+                x.read(1, 1 - family, key);
+            }
+            due("one row, fewer than were taken in ahead", takeKeys(x, family, 4), 2);
+            due("commit of one that read all others", x.commit(0), DONE);
+            due("commit of one that read the other family", x.commit(1), DONE);
+            x.begin();
+            x.read(2, family, 4);
+            x.begin();
+            x.read(3, family, 63);
+            takeKeys(x, family, 0, 4, 62);
+            due("commit of one that read a key of them", x.commit(2), CONFLICT);
+            due("commit of one that read the key behind them", x.commit(3), DONE);
+        }
+    }
+
     private static void conflictsByNumbers() {
         Check.about("since it was begun");
         Stratalog x = new Stratalog();
@@ -626,6 +655,49 @@ public final class ViewTests extends TestBase {
         Check.throwsState("with 6 runs", () -> x.commit(1));
         due("compact", x.compact(1), 0);
         due("with none", x.commit(1), DONE);
+    }
+
+    private static void commitBesideThePressure() {
+        Check.about("each key of the family without pressure");
+        for (int family = 0; family < 2; family++) {
+            for (int key : new int[] {0, 1, 62, 63}) {
+                Stratalog x = new Stratalog();
+                putMany(x, family, 40);
+                x.begin();
+                x.write(0, 1 - family, key, 1);
+                due("commit for " + key, x.commit(0), DONE);
+                due("get", x.get(1 - family, key, NONE), 1);
+                x.begin();
+                x.write(1, family, key, 1);
+                int f = family;
+                Check.throwsState("commit for the other family", () -> x.commit(1));
+                due("write", x.write(1, f, key, 2), 1);
+            }
+        }
+    }
+
+    private static void commitOfMarks() {
+        Check.about("a MARK that a transaction writes");
+        Stratalog x = new Stratalog();
+        x.put(0, 5, 1);
+        x.put(1, 5, 1);
+        x.begin();
+        x.write(0, 0, 5, NO_VALUE);
+        x.write(0, 1, 5, NO_VALUE);
+        x.write(0, 1, 6, NO_VALUE);
+        due("commit", x.commit(0), DONE);
+        due("get", x.get(0, 5, NONE), NO_VALUE);
+        x.add(0, 5, 3);
+        x.add(1, 6, 4);
+        due("with an ADD above it", x.get(0, 5, NONE), 3);
+        due("without one", x.get(1, 5, NONE), NO_VALUE);
+        due("upon nothing, with an ADD above it", x.get(1, 6, NONE), 4);
+        x.flush(0);
+        due("whole", x.whole(0), 2);
+        due("with an ADD above it", x.get(0, 5, NONE), 3);
+        x.flush(1);
+        due("whole", x.whole(1), 3);
+        due("upon nothing, with an ADD above it", x.get(1, 6, NONE), 4);
     }
 
     private static void commitReachesThePressure() {
