@@ -29,6 +29,8 @@ public final class Stratalog {
     private static final int FULL_SCORE = 100;
     private static final int ENTRIES_OF_A_RUN = 8;
     private static final int STALLED = 2;
+    /** Above the numbers of all writes. */
+    private static final int ENDLESS = 2147483647;
 
     /** What an item is; GONE is one that the next removeGone() takes away. */
     private static final int PUT = 0, MARK = 1, ADD = 2, CLEAR = 3, GONE = 4;
@@ -789,8 +791,8 @@ public final class Stratalog {
         }
 
         int greatestNumber() {
-            int ofEntries = entries.greatestNumberIn(0, LAST_KEY, Integer.MAX_VALUE);
-            int ofClears = clears.greatestNumberIn(0, LAST_KEY, Integer.MAX_VALUE);
+            int ofEntries = entries.greatestNumberIn(0, LAST_KEY, ENDLESS);
+            int ofClears = clears.greatestNumberIn(0, LAST_KEY, ENDLESS);
             return Math.max(ofEntries, ofClears);
         }
 
@@ -1099,7 +1101,7 @@ public final class Stratalog {
 
         /** The last number that is in one stripe with a number. */
         int endOf(int number) {
-            int end = Integer.MAX_VALUE;
+            int end = ENDLESS;
             for (int i = 0; i < count && i < pinned.length; i++) {
                 if (pinned[i] >= number && pinned[i] < end) {
                     end = pinned[i];

@@ -26,6 +26,7 @@ public final class CrashTests extends TestBase {
         cutOfACompaction();
         cutLeavesRunsAsTheyWere();
         cutEndsViews();
+        firstWritesAreLost();
         System.out.println("CrashTests");
         Check.end();
     }
@@ -511,6 +512,22 @@ public final class CrashTests extends TestBase {
             due("snapshot", x.snapshot(), 1);
             due("begin", x.begin(), 1);
             due("get", x.get(0, 1, NONE), 2);
+        }
+    }
+
+    private static void firstWritesAreLost() {
+        Script[] writes = {x -> x.put(0, 5, 1), x -> x.mark(0, 5), x -> x.add(0, 5, 1), x -> x.clear(0, 5, 5)};
+        for (int i = 0; i < writes.length; i++) {
+            Check.about("the very first write is lost: " + i);
+            Stratalog x = new Stratalog();
+            writes[i].on(x);
+            due("crash", x.crash(0), 0);
+            due("number", x.number(), 0);
+            due("table", x.table(0), 0);
+            due("flush", x.flush(0), NONE);
+            due("put", x.put(0, 5, 3), 1);
+            due("get", x.get(0, 5, NONE), 3);
+            due("table", x.table(0), 1);
         }
     }
 }

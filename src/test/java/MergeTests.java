@@ -38,6 +38,8 @@ public final class MergeTests extends TestBase {
         pinsByNumbers();
         pinsOfBothFamilies();
         pinsBesideOthers();
+        pinsInEachLevel();
+        cutsBesideOneKey();
         System.out.println("MergeTests");
         Check.end();
     }
@@ -970,5 +972,58 @@ public final class MergeTests extends TestBase {
         Check.throwsIndex("pins of a released one", () -> x.pins(2));
         x.crash(0);
         Check.throwsIndex("pins after a crash", () -> x.pins(1));
+    }
+
+    private static void pinsInEachLevel() {
+        for (int family = 0; family < 2; family++) {
+            for (int level = 0; level < 4; level++) {
+                Check.about("pins of what is in the level " + level + " of the family " + family);
+                Stratalog x = new Stratalog();
+                x.put(family, 0, 1);
+                x.snapshot();
+                x.put(family, 0, 2);
+                due("of what is in the table", x.pins(0), 0);
+                runOf(x, family, 1, 10);
+                if (level == 1 || level == 2) {
+                    for (int key = 20; key < 23; key++) {
+                        oneRun(x, family, key);
+                    }
+                    due("compact", x.compact(family), 0);
+                }
+                if (level == 2) {
+                    due("compact", x.compact(family), 1);
+                }
+                if (level == 3) {
+                    due("whole", x.whole(family), 0);
+                }
+                dueRun(x, family, level, 0, level == 0 ? new int[] {0, 10, 12, 12} : new int[] {0, 6, 8, 8});
+                due("pins", x.pins(0), 1);
+                x.release(0);
+                due("whole, when it has ended", x.whole(family), 1);
+            }
+        }
+    }
+
+    private static void cutsBesideOneKey() {
+        int[] counts = {6, 7, 8, 9, 10, 11, 12, 20, 29};
+        for (int i = 0; i < counts.length; i++) {
+            int[][] want = {{4, 4, 1}, {5, 5, counts[i]}, {6, 6, 1}};
+            if (counts[i] == 6) {
+                want = new int[][] {{4, 6, 8}};
+            } else if (counts[i] == 7) {
+                want = new int[][] {{4, 5, 8}, {6, 6, 1}};
+            }
+            Check.about("one key with " + counts[i] + " between two others");
+            Stratalog x = new Stratalog();
+            x.put(0, 4, 1);
+            x.put(0, 6, 1);
+            for (int n = 0; n < counts[i]; n++) {
+                x.put(0, 5, n);
+                x.snapshot();
+            }
+            x.flush(0);
+            due("whole", x.whole(0), 0);
+            dueRuns(x, 0, 3, want);
+        }
     }
 }

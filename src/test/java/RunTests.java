@@ -22,9 +22,13 @@ public final class RunTests extends TestBase {
         turnsAreOfOneLevel();
         turnsAreOfOneFamily();
         turnsOfThisCallAlone();
+        turnsInTheLevelTwo();
+        turnsOfTheLevelTwoStay();
         runsOfTheLevelBelow();
         runsBelowTheLevelZero();
         runsBelowTheLevelTwo();
+        greatestNumbersAtTheEnds();
+        scoresOfManyEntries();
         System.out.println("RunTests");
         Check.end();
     }
@@ -397,6 +401,58 @@ public final class RunTests extends TestBase {
         due("footing of the level 2", takeKeys(x, 0, 0, 63), 2);
     }
 
+    /** A run over all keys in the level 3; of two in the level 2 the one was taken that ended at 31. */
+    private static Stratalog turnAt31() {
+        Stratalog x = new Stratalog();
+        takeKeys(x, 0, 0, 63);
+        due("taken in", takeOf(x, 0, 48, 63, 2), 2);
+        due("taken in", takeOf(x, 0, 0, 31, 2), 2);
+        due("compact of the first of all", x.compact(0), 2);
+        dueRuns(x, 0, 2, new int[][] {{48, 63, 16}});
+        return x;
+    }
+
+    private static void turnsInTheLevelTwo() {
+        Check.about("turns in the level 2");
+        Stratalog x = turnAt31();
+        due("taken in", takeOf(x, 0, 0, 14, 2), 2);
+        due("taken in, beginning where the one ended", takeOf(x, 0, 31, 47, 2), 2);
+        due("compact", x.compact(0), 2);
+        dueRuns(x, 0, 2, new int[][] {{0, 14, 15}, {31, 47, 17}});
+        due("taken in", takeOf(x, 0, 15, 30, 2), 2);
+        due("compact, none beginning above 63", x.compact(0), 2);
+        dueRuns(x, 0, 2, new int[][] {{15, 30, 16}, {31, 47, 17}});
+        Stratalog y = turnAt31();
+        due("taken in", takeOf(y, 0, 0, 15, 2), 2);
+        due("taken in, beginning above it", takeOf(y, 0, 32, 47, 2), 2);
+        due("compact", y.compact(0), 2);
+        dueRuns(y, 0, 2, new int[][] {{0, 15, 16}, {48, 63, 16}});
+    }
+
+    private static void turnsOfTheLevelTwoStay() {
+        Script[] between = {
+            x -> x.crash(0), x -> x.crash(100), x -> x.cut(0, true), x -> x.cut(0, false), x -> x.cut(1, true),
+            x -> x.cut(1, false), x -> x.whole(1), x -> x.compact(1), x -> x.flush(0), x -> x.compact(0)};
+        for (int i = 0; i < between.length; i++) {
+            Check.about("turns of the level 2 stay through " + i);
+            Stratalog x = turnAt31();
+            x.put(1, 40, 1);
+            between[i].on(x);
+            due("taken in", takeOf(x, 0, 0, 15, 2), 2);
+            due("taken in", takeOf(x, 0, 32, 47, 2), 2);
+            due("compact", x.compact(0), 2);
+            dueRuns(x, 0, 2, new int[][] {{0, 15, 16}, {48, 63, 16}});
+        }
+        Check.about("turns of the level 2 stay through whole()");
+        Stratalog x = turnAt31();
+        x.whole(0);
+        due("runs of the level 2", x.level(0, 2, 0), 0);
+        due("taken in", takeOf(x, 0, 0, 23, 2), 2);
+        due("taken in", takeOf(x, 0, 32, 55, 2), 2);
+        due("compact", x.compact(0), 2);
+        dueRuns(x, 0, 2, new int[][] {{0, 23, 24}});
+    }
+
     // ---- which runs of the level below are taken
 
     private static void runsOfTheLevelBelow() {
@@ -461,5 +517,53 @@ public final class RunTests extends TestBase {
         dueRun(x, 0, 3, 1, new int[] {9, 16, 8, 5});
         dueRun(x, 0, 3, 6, new int[] {49, 56, 8, 5});
         dueRun(x, 0, 3, 7, new int[] {57, 63, 2, 4});
+    }
+
+    // ---- numbers and scores
+
+    private static void greatestNumbersAtTheEnds() {
+        Check.about("the greatest number of a run, of CLEARs, too");
+        Stratalog x = new Stratalog();
+        x.put(0, 5, 1);
+        x.clear(0, 60, 63);
+        x.flush(0);
+        dueRun(x, 0, 0, 0, new int[] {5, 63, 1, 2});
+        x.clear(0, 63, 63);
+        x.put(0, 0, 1);
+        x.flush(0);
+        dueRun(x, 0, 0, 0, new int[] {0, 63, 1, 4});
+        x.put(0, 63, 1);
+        x.clear(0, 0, 0);
+        x.flush(0);
+        dueRun(x, 0, 0, 0, new int[] {0, 63, 1, 6});
+        x.clear(0, 0, 63);
+        x.flush(0);
+        dueRun(x, 0, 0, 0, new int[] {0, 63, 0, 7});
+        x.put(0, 0, 1);
+        x.clear(0, 63, 63);
+        x.put(0, 62, 1);
+        x.flush(0);
+        dueRun(x, 0, 0, 0, new int[] {0, 63, 2, 10});
+    }
+
+    private static void scoresOfManyEntries() {
+        Check.about("scores of many entries");
+        Stratalog x = new Stratalog();
+        for (int round = 0; round < 4; round++) {
+            runOf(x, 0, 0, 38);
+            x.snapshot();
+        }
+        due("compact of four stripes", x.compact(0), 0);
+        dueLevel(x, 0, 1, new int[] {20, 156, 0, 1300});
+        int[] ofOne = {1233, 1166, 1100, 1033, 966, 900, 833, 766, 700, 633, 566, 500, 433, 366, 300, 233};
+        int[] ofTwo = {16, 33, 50, 66, 83, 100, 116, 133, 150, 166, 183, 200, 216, 233, 250, 266};
+        for (int i = 0; i < ofOne.length; i++) {
+            due("compact", x.compact(0), 1);
+            dueLevel(x, 0, 1, new int[] {19 - i, 148 - 8 * i, 0, ofOne[i]});
+            dueLevel(x, 0, 2, new int[] {i + 1, 8 * i + 8, 0, ofTwo[i]});
+        }
+        due("266 is more than 233", x.compact(0), 2);
+        dueLevel(x, 0, 2, new int[] {15, 120, 0, 250});
+        dueLevel(x, 0, 3, new int[] {1, 8, 0, 0});
     }
 }

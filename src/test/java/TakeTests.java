@@ -27,6 +27,7 @@ public final class TakeTests extends TestBase {
         takeUnderPressure();
         takeIsOneWrite();
         takeByViews();
+        takeOfOneKeyThatIsCleared();
         System.out.println("TakeTests");
         Check.end();
     }
@@ -459,5 +460,19 @@ public final class TakeTests extends TestBase {
         due("the transaction still pins", x.whole(0), 0);
         due("commit", x.commit(0), CONFLICT);
         due("whole", x.whole(0), 1);
+    }
+
+    private static void takeOfOneKeyThatIsCleared() {
+        Check.about("one row, and a CLEAR of its key alone");
+        for (int key = 0; key < 64; key += 21) {
+            Stratalog x = new Stratalog();
+            x.clear(0, key, key);
+            due("row", x.row(key, 7), 1);
+            due("take", x.take(0), 0);
+            due("the family is flushed ahead", x.table(0), 0);
+            dueRun(x, 0, 0, 0, new int[] {key, key, 1, 2});
+            dueRun(x, 0, 0, 1, new int[] {key, key, 0, 1});
+            due("get", x.get(0, key, NONE), 7);
+        }
     }
 }

@@ -31,6 +31,7 @@ public final class ViewTests extends TestBase {
         commitReachesThePressure();
         commitBesideThePressure();
         commitOfMarks();
+        viewsOfGreatNumbers();
         System.out.println("ViewTests");
         Check.end();
     }
@@ -714,5 +715,33 @@ public final class ViewTests extends TestBase {
         x.write(1, 0, 0, 1);
         Check.throwsState("commit at 69", () -> x.commit(1));
         due("flush", x.flush(0), 69);
+    }
+
+    private static void viewsOfGreatNumbers() {
+        Check.about("numbers above 400");
+        Stratalog x = new Stratalog();
+        for (int round = 0; round < 11; round++) {
+            runOf(x, 0, 0, 38);
+            x.whole(0);
+        }
+        due("number", x.number(), 429);
+        due("begin", x.begin(), 0);
+        due("begin", x.begin(), 1);
+        due("snapshot", x.snapshot(), 0);
+        due("read", x.read(0, 0, 38), 1);
+        due("read", x.read(1, 0, 37), 1);
+        due("put", x.put(0, 38, 2), 430);
+        due("get", x.get(0, 38, NONE), 2);
+        due("get by the snapshot", x.get(0, 38, 0), 1);
+        due("read", x.read(0, 0, 38), 1);
+        due("commit", x.commit(0), CONFLICT);
+        due("write", x.write(1, 0, 37, 3), 1);
+        due("commit", x.commit(1), DONE);
+        due("number", x.number(), 431);
+        due("flush", x.flush(0), 2);
+        due("pins", x.pins(0), 2);
+        due("put", x.put(0, 7, 2), 432);
+        due("crash", x.crash(0), 431);
+        due("get", x.get(0, 37, NONE), 3);
     }
 }

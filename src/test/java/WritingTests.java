@@ -20,6 +20,8 @@ public final class WritingTests extends TestBase {
         lookedInAllLevels();
         lookedAfterMerging();
         lookedByFilters();
+        lookedStays();
+        clearsInEachLevel();
         System.out.println("WritingTests");
         Check.end();
     }
@@ -506,6 +508,71 @@ public final class WritingTests extends TestBase {
         y.flush(0);
         for (int key = 0; key < 64; key++) {
             dueLooked(y, key, key <= 2 ? 1 : 0);
+        }
+    }
+
+    private static void lookedStays() {
+        Script[] others = {
+            x -> x.put(0, 5, 1), x -> x.clear(0, 0, 63), x -> x.next(0, 0, true, 0), x -> x.pins(0), x -> x.release(0),
+            x -> x.read(0, 1, 5), x -> x.write(0, 0, 5, 1), x -> x.commit(0), x -> x.flush(0), x -> x.compact(0),
+            x -> x.whole(0), x -> x.whole(1), x -> takeKeys(x, 0, 5), x -> x.sync(), x -> x.crash(0), x -> x.crash(100),
+            x -> x.cut(0, true), x -> x.cut(1, false), x -> x.level(0, 0, 0), x -> x.run(0, 0, 0, 0)};
+        for (int i = 0; i < others.length; i++) {
+            Check.about("looked() is of the latest get(), whatever comes then: " + i);
+            Stratalog x = new Stratalog();
+            for (int run = 0; run < 4; run++) {
+                oneRun(x, 0, 5);
+            }
+            x.snapshot();
+            x.begin();
+            x.get(0, 5, NONE);
+            others[i].on(x);
+            due("looked", x.looked(), 4);
+            x.get(1, 5, NONE);
+            due("looked of the next get()", x.looked(), 0);
+        }
+    }
+
+    // ---- CLEARs in each level
+
+    /** Rows of all keys in the level 3, and above them a CLEAR of the keys 0 to 5 that lies in a level. */
+    private static Stratalog clearInALevel(int family, int level) {
+        Stratalog x = new Stratalog();
+        due("taken in", takeOf(x, family, 0, 63, 1), 3);
+        x.snapshot();
+        clearRun(x, family, 0, 5);
+        if (level == 1 || level == 2) {
+            runOf(x, family, 6, 17);
+            oneRun(x, family, 18);
+            oneRun(x, family, 19);
+            due("compact", x.compact(family), 0);
+        }
+        if (level == 2) {
+            due("compact", x.compact(family), 1);
+        }
+        if (level == 3) {
+            x.whole(family);
+        }
+        return x;
+    }
+
+    private static void clearsInEachLevel() {
+        for (int family = 0; family < 2; family++) {
+            for (int level = 0; level < 4; level++) {
+                Check.about("reads upon a CLEAR in the level " + level + " of the family " + family);
+                Stratalog x = clearInALevel(family, level);
+                due("CLEARs of the level", x.level(family, level, 2), 1);
+                due("its first key", x.get(family, 0, NONE), NO_VALUE);
+                due("its last key", x.get(family, 5, NONE), NO_VALUE);
+                due("the key above", x.get(family, 6, NONE), 1);
+                due("next forward", x.next(family, 0, true, NONE), 6);
+                due("next backward", x.next(family, 5, false, NONE), NONE);
+                due("its first key by a snapshot", x.get(family, 0, 0), 1);
+                due("its last key by a snapshot", x.get(family, 5, 0), 1);
+                due("next by a snapshot", x.next(family, 5, false, 0), 5);
+                x.begin();
+                due("read by a transaction", x.read(0, family, 5), NO_VALUE);
+            }
         }
     }
 }
